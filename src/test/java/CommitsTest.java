@@ -257,6 +257,9 @@ public final class CommitsTest {
         Check.compare("5", "it stays", Check.keys(desk, 13, 1));
         desk.open(0);
         desk.commit(0, 1);
+        Check.is(1, "confirm in the last minute", () -> desk.confirm());
+        desk.open(0);
+        desk.commit(0, 1);
         desk.advance(1);
         Check.noState("it has been undone", () -> desk.confirm());
     }
@@ -317,6 +320,8 @@ public final class CommitsTest {
         Check.is(30, "waiting", () -> desk.waiting());
         desk.advance(29);
         Check.is(1, "waiting", () -> desk.waiting());
+        desk.open(1);
+        Check.noState("it waits to its last minute", () -> desk.commit(1, 0));
         Check.is(2, "running while it waits", () -> desk.running());
         desk.advance(1);
         Check.is(-1, "it has been undone", () -> desk.waiting());

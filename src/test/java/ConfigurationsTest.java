@@ -146,17 +146,23 @@ public final class ConfigurationsTest {
         desk.set(0, 1, 2, 1, 60);
         Check.is(0, "it shows the same, but has it itself", () -> same(desk, 0, 11));
         desk.load(0, 1);
-        desk.setGroup(0, 2, 0, 0);
-        Check.is(0, "another value of a group", () -> same(desk, 0, 11));
-        desk.setGroup(0, 2, 0, -1);
+        for (int group = 0; group < 3; group++) {
+            for (int field = 0; field < 2; field++) {
+                int before = desk.setGroup(0, group, field, 0);
+                Check.is(0, "another value of a group", () -> same(desk, 0, 11));
+                desk.setGroup(0, group, field, before);
+            }
+        }
         Check.is(1, "as it was", () -> same(desk, 0, 11));
         desk.remove(0, 1, 4);
         desk.add(0, 1, 5, 0);
         Check.is(0, "another key", () -> same(desk, 0, 11));
         desk.load(0, 1);
-        desk.add(0, 2, 5, 0);
-        Check.is(0, "one more in another section", () -> same(desk, 0, 11));
-        desk.load(0, 1);
+        for (int section = 0; section < 3; section++) {
+            desk.add(0, section, 5, 0);
+            Check.is(0, "one more in a section", () -> same(desk, 0, 11));
+            desk.load(0, 1);
+        }
         desk.remove(0, 1, 2);
         Check.is(0, "one less", () -> same(desk, 0, 11));
         for (int which : NO_CONFIGURATIONS) {
