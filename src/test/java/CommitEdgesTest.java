@@ -406,7 +406,7 @@ public final class CommitEdgesTest {
             if (minutes > 1) {
                 Edge.answers(1, "in the last minute", edited(Desks.waiting(minutes), desk -> desk.advance(minutes - 1)),
                     desk -> desk.confirm());
-                Edge.answers(minutes - 1, "in the first minute", edited(Desks.waiting(minutes), desk -> desk.advance(1)),
+                Edge.answers(minutes - 1, "behind a minute", edited(Desks.waiting(minutes), desk -> desk.advance(1)),
                     desk -> desk.confirm());
             }
         }
@@ -480,7 +480,7 @@ public final class CommitEdgesTest {
         Check.is(6, "two of two minutes", () -> desk.advance(1));
     }
 
-    /** "a new version with the configuration that was running ahead of the commit, whether or not it keeps the rules" */
+    /** "the configuration that was running ahead of the commit, whether or not it keeps the rules" */
     private static void advanceGoesBack() {
         ConfigDesk desk = OPEN.get();
         desk.rule(0, 0, 0, 0);

@@ -84,7 +84,8 @@ public final class ConfigurationEdgesTest {
             }
             return desk.keyAt(n, 1, 0);
         });
-        Edge.range(INDEX, "keyAt of the section", Desks.with("3", "", "4"), 0, 3, 2, 4, (desk, n) -> desk.keyAt(11, n, 0));
+        Edge.range(INDEX, "keyAt of the section", Desks.with("3", "", "4"), 0, 3, 2, 4,
+            (desk, n) -> desk.keyAt(11, n, 0));
         Edge.range(INDEX, "keyAt, of six, the place", DESKS, 0, 9, 5, 7, (desk, n) -> desk.keyAt(12, 1, n));
         Edge.range(INDEX, "keyAt, of three, the place", DESKS, 0, 4, 2, 2, (desk, n) -> desk.keyAt(0, 2, n));
         Edge.refused(INDEX, "keyAt, of none, the place 0", DESKS, desk -> desk.keyAt(0, 0, 0));
