@@ -505,7 +505,7 @@ public final class ConfigDesk {
 
         int valueShown(Entry entry, int field) {
             int group = entry.settings[GROUP];
-            if (entry.settings[field] != NONE || group == NONE) {
+            if (entry.settings[field] != NONE || group < 0 || group >= GROUPS) {
                 return entry.settings[field];
             }
             return groups[group][field];
@@ -636,7 +636,7 @@ public final class ConfigDesk {
         /** Returns whether it can be applied; changes nothing if not. */
         boolean applyTo(Configuration configuration, boolean isLoose) {
             if (kind >= GROUP_SETTING) {
-                return setIn(configuration.groups[key], kind - GROUP_SETTING);
+                return key < GROUPS && setIn(configuration.groups[key], kind - GROUP_SETTING);
             }
             Section edited = configuration.sections[section];
             int place = edited.placeOf(key);
